@@ -191,7 +191,7 @@ public final class WordGraph {
         return i >= 0 && i < resultCount;
     }
 
-    /** The letter at i (0 .. 11), or 0 behind the end; also 0 at 12, where no word has one. */
+    /** 0 behind the end of a word; at 12 too, where step looks when a word has twelve letters. */
     private static int letterAt(long w, int i) {
         if (i >= MOST_LETTERS) {
             return 0;
@@ -245,7 +245,7 @@ public final class WordGraph {
         return nodeCount - 1;
     }
 
-    /** Gives each beginning that is new at word k the node of an earlier one, or a node of its own. */
+    /** The others have had their nodes at an earlier word. */
     private void numberBeginnings(int k) {
         for (int letters = firstNew[k]; letters <= lengths[k]; letters++) {
             int node = earlierNode(k, letters);
@@ -304,7 +304,7 @@ public final class WordGraph {
         }
     }
 
-    /** The distance of word k to w, of the given length; the rows before from must be right already. */
+    /** The distance of word k to w, which has the given length; rows before from are right. */
     private int farOfWord(int k, int from, long w, int length) {
         for (int row = from; row <= lengths[k]; row++) {
             fillRow(row, letterAt(words[k], row - 1), w, length);

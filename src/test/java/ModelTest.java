@@ -336,7 +336,7 @@ public final class ModelTest {
         }
 
         void go() {
-            while (calls < MOST_CALLS - 60) {
+            while (calls < MOST_CALLS - 110) {
                 fill();
                 int questions = random.nextInt(120);
                 if (random.nextInt(8) != 0) {
@@ -352,7 +352,7 @@ public final class ModelTest {
                         ask();
                     }
                 }
-                if (calls >= MOST_CALLS - 60 || random.nextInt(3) == 0) {
+                if (calls >= MOST_CALLS - 110 || random.nextInt(3) == 0) {
                     break;
                 }
                 clear();

@@ -307,6 +307,10 @@ public final class PromiseTest {
         }
         due("the second word's first letter", x.step(0, 26), 13);
         due("the second word's last letter", x.step(23, 15), 12);
+        WordGraph late = sealed("zyxwvutsrqpo");
+        for (int letter = 0; letter <= 27; letter++) {
+            due("step behind twelve letters, the first a z", late.step(12, letter), -1);
+        }
     }
 
     private static void ends() {
