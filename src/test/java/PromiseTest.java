@@ -44,13 +44,22 @@ public final class PromiseTest extends Check {
         WordGraph two = new WordGraph();
         due("size of the new one", two.size(), 0);
         dueResults(two);
-        due("add to the new one", two.add(word("a")), 0);
+        due("add to the new one", two.add(word("abcd")), 0);
+        due("add to the new one", two.add(word("zyxw")), 0);
         due("seal of the new one", two.seal(), true);
-        due("search in the new one", two.search(0L, 3), 1);
+        due("search in the new one", two.search(word("abc"), 3), 1);
         due("size", one.size(), 2);
         due("word 0", one.word(0), word("car"));
         due("nodes", one.nodes(), 4);
-        due("nodes of the new one", two.nodes(), 2);
+        due("nodes of the new one", two.nodes(), 8);
+        due("cat", one.step(2, 20), 3);
+        due("zyx of the new one", two.step(6, 24), 7);
+        due("ends", one.ends(3), true);
+        due("ends of the new one", two.ends(3), false);
+        due("endings", one.endings(1), 2);
+        due("endings of the new one", two.endings(1), 1);
+        due("distance", one.distance(0L, 0), 3);
+        due("distance in the new one", two.distance(0L, 0), 4);
         dueResults(one, 1, 0, 0, 1);
         dueResults(two, 0, 1);
     }
