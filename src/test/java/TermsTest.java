@@ -325,22 +325,6 @@ public final class TermsTest extends Check {
         dueResults(x, 1, 0, 0, 1);
     }
 
-    /** The document speaks of 512 calls on one object, so the last of them answers rightly, too. */
-    private static void holdsFor512Calls() {
-        WordGraph x = new WordGraph();
-        int calls = 0;
-        for (String letters : fullList()) {
-            due("add", x.add(word(letters)), 0);
-            calls++;
-        }
-        due("seal", x.seal(), true);
-        for (calls++; calls < 510; calls++) {
-            due("search", x.search(word("za"), 2), 48);
-        }
-        due("call 511", x.result(47), 24);
-        due("call 512", x.far(47), 2);
-    }
-
     public static void main(String[] args) {
         sentence("letters are 1 .. 26", TermsTest::lettersAre1To26);
         sentence("a word has 0 to 12 letters", TermsTest::wordHasUpToTwelveLetters);
@@ -368,7 +352,6 @@ public final class TermsTest extends Check {
         sentence("at first there are no results", TermsTest::noResultsAtFirst);
         sentence("results of the latest search", TermsTest::resultsOfTheLatestSearch);
         sentence("results stay behind a refused search", TermsTest::resultsStayBehindARefusedSearch);
-        sentence("an object is used for 512 calls", TermsTest::holdsFor512Calls);
         finish();
     }
 }
